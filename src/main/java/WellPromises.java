@@ -1698,64 +1698,59 @@ public final class WellPromises {
         }
 
         private void fillPlace(int hour, int place) {
-            boolean stays = mustStay(hour);
-            int deedBits = stays ? 0 : usefulDeeds(hour, place);
-            int nearBits = stays ? 0 : house.near[place];
+            int here = cell(hour, place, 0);
+            int stays = cell(hour + 1, place, 0);
+            System.arraycopy(fewest, stays, fewest, here, STILL);
+            if (mustStay(hour)) {
+                return;
+            }
+            for (int next = 0; next < house.places; next++) {
+                if (house.isNear(place, next)) {
+                    tryGoing(here, cell(hour + 1, next, 0));
+                }
+            }
+            for (int deed = 0; deed < house.deeds; deed++) {
+                int counted = countedFor(hour, place, deed);
+                if (counted != 0) {
+                    tryDoing(here, stays, counted);
+                }
+            }
+        }
+
+        private void tryGoing(int here, int there) {
             for (int k = 0; k < stateCount; k++) {
-                int still = states[k];
-                int best = fewest[cell(hour + 1, place, still)];
-                if (still != 0 && best > 0) {
-                    best = Math.min(best, byGoing(hour, nearBits, still));
-                    best = Math.min(best, byDoing(hour, place, deedBits, still));
-                }
-                fewest[cell(hour, place, still)] = (byte) best;
-            }
-        }
-
-        private int byGoing(int hour, int nearBits, int still) {
-            int best = NO_PLAN;
-            for (int place = 0; nearBits >> place != 0 && place < house.places; place++) {
-                if ((nearBits >> place & 1) == 1) {
-                    best = Math.min(best, 1 + fewest[cell(hour + 1, place, still)]);
+                int goings = 1 + fewest[there + states[k]];
+                if (goings < fewest[here + states[k]]) {
+                    fewest[here + states[k]] = (byte) goings;
                 }
             }
-            return best;
         }
 
-        private int byDoing(int hour, int place, int deedBits, int still) {
-            int best = NO_PLAN;
-            for (int deed = 0; deedBits >> deed != 0 && deed < house.deeds; deed++) {
-                if ((deedBits >> deed & 1) == 1) {
-                    best = Math.min(best, fewest[cell(hour + 1, place, afterDeed(hour, place, deed, still))]);
+        private void tryDoing(int here, int stays, int counted) {
+            for (int k = 0; k < stateCount; k++) {
+                int goings = fewest[stays + afterDeed(states[k], counted)];
+                if (goings < fewest[here + states[k]]) {
+                    fewest[here + states[k]] = (byte) goings;
                 }
             }
-            return best;
         }
 
-        private boolean isCounted(int k, int hour, int place) {
-            int p = dueOnes[k];
-            return house.term(p, PLACE) == place && house.term(p, FROM) <= hour && hour <= house.term(p, TILL);
-        }
-
-        private int usefulDeeds(int hour, int place) {
+        /** For which of the DUE ones a DEED there and then counts, as the lower of each one's two bits. */
+        private int countedFor(int hour, int place, int deed) {
             int bits = 0;
             for (int k = 0; k < dueCount; k++) {
-                if (isCounted(k, hour, place)) {
-                    bits |= 1 << house.term(dueOnes[k], DEED);
+                int p = dueOnes[k];
+                if (house.term(p, DEED) == deed && house.term(p, PLACE) == place
+                        && house.term(p, FROM) <= hour && hour <= house.term(p, TILL)) {
+                    bits |= 1 << 2 * k;
                 }
             }
             return bits;
         }
 
-        /** One DEED counts for every PROMISE that asks for it there and then. */
-        private int afterDeed(int hour, int place, int deed, int still) {
-            int left = still;
-            for (int k = 0; k < dueCount; k++) {
-                if ((still >> 2 * k & 3) > 0 && house.term(dueOnes[k], DEED) == deed && isCounted(k, hour, place)) {
-                    left -= 1 << 2 * k;
-                }
-            }
-            return left;
+        /** One DEED counts for every PROMISE that asks for it, but none asks for less than nothing. */
+        private static int afterDeed(int still, int counted) {
+            return still - ((still | still >> 1) & counted);
         }
 
         private void writeSteps(int goings) {
@@ -1768,7 +1763,7 @@ public final class WellPromises {
                 int what = firstStep(hour, place, still, left);
                 steps[hour] = what;
                 if (what >= STEP_DO) {
-                    still = afterDeed(hour, place, what - STEP_DO, still);
+                    still = afterDeed(still, countedFor(hour, place, what - STEP_DO));
                 } else if (what >= STEP_GO) {
                     place = what - STEP_GO;
                     left--;
@@ -1786,7 +1781,8 @@ public final class WellPromises {
                 }
             }
             for (int deed = 0; deed < house.deeds; deed++) {
-                if (fewest[cell(hour + 1, place, afterDeed(hour, place, deed, still))] == left) {
+                int then = afterDeed(still, countedFor(hour, place, deed));
+                if (fewest[cell(hour + 1, place, then)] == left) {
                     return STEP_DO + deed;
                 }
             }
