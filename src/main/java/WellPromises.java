@@ -280,7 +280,7 @@ public final class WellPromises {
         int why = whyGo(p, place);
         if (why == CAN) {
             life.remember();
-            life.makeGo(p, place);
+            life.tryGo(p, place);
         }
         return why;
     }
@@ -292,7 +292,7 @@ public final class WellPromises {
         int why = life.whyNotDo(p);
         if (why == CAN) {
             life.remember();
-            life.makeDo(p, deed);
+            life.tryDo(p, deed);
         }
         return why;
     }
@@ -304,7 +304,7 @@ public final class WellPromises {
         int why = life.whyNotSay(p, promise);
         if (why == CAN) {
             life.remember();
-            life.makeSay(p, promise);
+            life.trySay(p, promise);
         }
         return why;
     }
@@ -990,36 +990,40 @@ public final class WellPromises {
             house.clear();
             hoursTold = false;
             tape.startReading(HOUSE_BYTES);
-            for (lines = 0; lines < TAPE_BYTES && tape.kind != END; lines++) {
-                if (!readLine()) {
-                    return false;
+            boolean fine = true;
+            for (lines = 0; lines < TAPE_BYTES && fine && tape.kind != END; lines++) {
+                switch (tape.kind) {
+                    case WORD_HOURS:
+                        fine = readHours();
+                        break;
+                    case WORD_PLACE:
+                        fine = readPlace();
+                        break;
+                    case WORD_WAY:
+                        fine = readWay();
+                        break;
+                    case WORD_FROG:
+                        fine = readFrog();
+                        break;
+                    case WORD_PERSON:
+                        fine = readPerson();
+                        break;
+                    case WORD_DEED:
+                        fine = readDeed();
+                        break;
+                    case WORD_PROMISE:
+                        fine = readPromise();
+                        break;
+                    case WORD_VOW:
+                        fine = readVow();
+                        break;
+                    default:
+                        fine = tape.fail(FAULT_TOKEN);
+                        break;
                 }
                 tape.readNext();
             }
-            return true;
-        }
-
-        private boolean readLine() {
-            switch (tape.kind) {
-                case WORD_HOURS:
-                    return readHours();
-                case WORD_PLACE:
-                    return readPlace();
-                case WORD_WAY:
-                    return readWay();
-                case WORD_FROG:
-                    return readFrog();
-                case WORD_PERSON:
-                    return readPerson();
-                case WORD_DEED:
-                    return readDeed();
-                case WORD_PROMISE:
-                    return readPromise();
-                case WORD_VOW:
-                    return readVow();
-                default:
-                    return tape.fail(FAULT_TOKEN);
-            }
+            return fine;
         }
 
         private boolean readHours() {
@@ -1280,26 +1284,39 @@ public final class WellPromises {
             return so[WHEN + promise] != NONE ? WHY_SAID : CAN;
         }
 
-        void makeGo(int p, int place) {
-            so[BUSY] |= 1 << p;
-            so[AT + p] = place;
-            so[WENT + p]++;
+        /** CAN, and it is done; else why not, and nothing has changed. */
+        int tryGo(int p, int place) {
+            int why = whyNotGo(p, place);
+            if (why == CAN) {
+                so[BUSY] |= 1 << p;
+                so[AT + p] = place;
+                so[WENT + p]++;
+            }
+            return why;
         }
 
-        void makeDo(int p, int deed) {
-            int row = so[DONE] * MARKS;
-            marks[row + MARK_WHEN] = so[TIME];
-            marks[row + MARK_WHO] = p;
-            marks[row + MARK_DEED] = deed;
-            marks[row + MARK_PLACE] = so[AT + p];
-            so[BUSY] |= 1 << p;
-            so[DONE]++;
-            so[DID + p]++;
+        int tryDo(int p, int deed) {
+            int why = whyNotDo(p);
+            if (why == CAN) {
+                int row = so[DONE] * MARKS;
+                marks[row + MARK_WHEN] = so[TIME];
+                marks[row + MARK_WHO] = p;
+                marks[row + MARK_DEED] = deed;
+                marks[row + MARK_PLACE] = so[AT + p];
+                so[BUSY] |= 1 << p;
+                so[DONE]++;
+                so[DID + p]++;
+            }
+            return why;
         }
 
-        void makeSay(int p, int promise) {
-            so[WHEN + promise] = so[TIME];
-            so[WHERE + promise] = so[AT + p];
+        int trySay(int p, int promise) {
+            int why = whyNotSay(p, promise);
+            if (why == CAN) {
+                so[WHEN + promise] = so[TIME];
+                so[WHERE + promise] = so[AT + p];
+            }
+            return why;
         }
 
         int passHours(int n) {
@@ -1821,32 +1838,11 @@ public final class WellPromises {
         private void drawFor(int p) {
             int sort = draw(3);
             if (sort == 0) {
-                drawGoing(p);
+                life.tryGo(p, draw(house.places));
             } else if (sort == 1 && house.deeds > 0) {
-                drawDeed(p);
+                life.tryDo(p, draw(house.deeds));
             } else if (sort == 2 && house.promises > 0) {
-                drawSaying(p);
-            }
-        }
-
-        private void drawGoing(int p) {
-            int place = draw(house.places);
-            if (life.whyNotGo(p, place) == CAN) {
-                life.makeGo(p, place);
-            }
-        }
-
-        private void drawDeed(int p) {
-            int deed = draw(house.deeds);
-            if (life.whyNotDo(p) == CAN) {
-                life.makeDo(p, deed);
-            }
-        }
-
-        private void drawSaying(int p) {
-            int promise = draw(house.promises);
-            if (life.whyNotSay(p, promise) == CAN) {
-                life.makeSay(p, promise);
+                life.trySay(p, draw(house.promises));
             }
         }
     }
@@ -1939,42 +1935,17 @@ public final class WellPromises {
             then = life.so[TIME];
         }
 
-        /** CAN if it was lived; else why not, and nothing has changed. */
         private int liveLine(int k) {
             switch (verb[k]) {
                 case WORD_GOES:
-                    return liveGoing(who[k], what[k]);
+                    return life.tryGo(who[k], what[k]);
                 case WORD_DOES:
-                    return liveDeed(who[k], what[k]);
+                    return life.tryDo(who[k], what[k]);
                 case WORD_SAYS:
-                    return liveSaying(who[k], what[k]);
+                    return life.trySay(who[k], what[k]);
                 default:
                     return liveHours(what[k]);
             }
-        }
-
-        private int liveGoing(int p, int place) {
-            int not = life.whyNotGo(p, place);
-            if (not == CAN) {
-                life.makeGo(p, place);
-            }
-            return not;
-        }
-
-        private int liveDeed(int p, int deed) {
-            int not = life.whyNotDo(p);
-            if (not == CAN) {
-                life.makeDo(p, deed);
-            }
-            return not;
-        }
-
-        private int liveSaying(int p, int promise) {
-            int not = life.whyNotSay(p, promise);
-            if (not == CAN) {
-                life.makeSay(p, promise);
-            }
-            return not;
         }
 
         private int liveHours(int n) {

@@ -7,6 +7,7 @@ public final class BookTest {
     public static void main(String[] args) {
         drawn();
         drawnByHand();
+        drawnWithoutPromises();
         odds();
         daybooks();
         daybookFaults();
@@ -24,6 +25,8 @@ public final class BookTest {
         WellPromises x = Check.with(HOUSE);
         Check.due("none", x.drawn(0, 1), -1);
         Check.due("100", x.drawn(100, 1), -1);
+        Check.due("1", x.drawn(1, 1), 1);
+        x.undo();
         Check.due("99", x.drawn(99, 1), 99);
         Check.due("61 left", x.drawn(99, 1), 61);
         Check.due("none left", x.drawn(99, 1), 0);
@@ -82,6 +85,33 @@ public final class BookTest {
         }
     }
 
+    /** No PROMISES: no draw of them either. */
+    private static void drawnWithoutPromises() {
+        for (int seed = 0; seed < 40; seed++) {
+            WellPromises x = Check.with("hours 8;place w;place h;way w h;person p w;deed eat;deed bow;deed sit;");
+            WellPromises y = Check.with("hours 8;place w;place h;way w h;person p w;deed eat;deed bow;deed sit;");
+            x.drawn(20, seed);
+            int s = seed;
+            for (int hour = 0; hour < 20; hour++) {
+                s = s * 1103515245 + 12345;
+                int sort = (s >>> 8) % 3;
+                s = sort == 2 ? s : s * 1103515245 + 12345;
+                if (sort == 0) {
+                    y.go(0, (s >>> 8) % 2);
+                } else if (sort == 1) {
+                    y.act(0, (s >>> 8) % 3);
+                }
+                y.hours(1);
+            }
+            Check.due("goings by " + seed, x.person(0, 3), y.person(0, 3));
+            Check.due("deeds by " + seed, x.now(2), y.now(2));
+            for (int k = 0; k < x.now(2); k++) {
+                Check.due("deed " + k + " by " + seed, x.done(k, 2), y.done(k, 2));
+                Check.due("its hour, by " + seed, x.done(k, 0), y.done(k, 0));
+            }
+        }
+    }
+
     private static void odds() {
         WellPromises x = Check.with(HOUSE);
         x.hours(3);
@@ -109,6 +139,7 @@ public final class BookTest {
         WellPromises sure = Check.with("hours 4;place w;frog w;person p w;deed d;promise x p d w 0 0 3;");
         sure.say(0, 0);
         Check.due("sure to be broken", sure.odds(0, 30, 5), 30);
+        Check.due("one seed", sure.odds(0, 1, 5), 1);
         sure.hours(80);
         Check.due("broken when all is over", sure.odds(0, 7, 5), 7);
     }
@@ -303,6 +334,10 @@ public final class BookTest {
         Check.sentenceFault(x, "bound open", 6, 1);
         Check.sentenceFault(x, "bound or", 8, 1);
         Check.sentenceFault(x, "or bound", 0, 1);
+        Check.sentenceFault(x, "bound and", 9, 1);
+        Check.sentenceFault(x, "bound and of r", 13, 3);
+        Check.sentenceFault(x, "bound or of r", 12, 3);
+        Check.sentenceFault(x, "bound and of r or open", 13, 3);
         Check.sentenceFault(x, "not", 3, 1);
         Check.sentenceFault(x, "not and", 4, 1);
         Check.sentenceFault(x, "(bound", 6, 1);

@@ -365,6 +365,9 @@ public final class JudgeTest {
         WellPromises x = Check.with(PEOPLE);
         Check.due("all fit ahead of a day", x.windows(0, 0, 0), 36);
         Check.due("the first one", x.shortest(0, 0, 0), 0);
+        Check.due("the first one of no person", x.shortest(2, 0, 0), -1);
+        Check.due("the first one of no deed", x.shortest(0, 2, 0), -1);
+        Check.due("the first one in no place", x.shortest(0, 0, 3), -1);
         x.hours(2);
         act(x, 0, 0, 3);
         act(x, 0, 0, 1);

@@ -65,8 +65,11 @@ public final class LifeTest {
         Check.due("no such what", x.person(0, 4), -1);
         Check.due("what below", x.person(0, -1), -1);
         x.go(0, 1);
+        x.go(1, 2);
         x.hours(1);
         x.act(0, 1);
+        x.go(1, 1);
+        x.hours(1);
         x.act(1, 0);
         x.hours(1);
         x.act(0, 1);
@@ -76,7 +79,7 @@ public final class LifeTest {
         Check.due("deeds", x.person(0, 2), 2);
         Check.due("goings", x.person(0, 3), 1);
         Check.due("deeds of q", x.person(1, 2), 1);
-        Check.due("goings of q", x.person(1, 3), 0);
+        Check.due("goings of q", x.person(1, 3), 2);
     }
 
     private static void waysAndFrogs() {
@@ -98,6 +101,9 @@ public final class LifeTest {
             + "way a b;way b c;way c e;way e f;way f g;way g h;way h i;");
         Check.due("seven steps", row.way(0, 7), 7);
         Check.due("seven back", row.way(7, 0), 7);
+        Check.due("from a ninth", row.way(8, 0), -1);
+        Check.due("to a ninth", row.way(0, 8), -1);
+        Check.due("to none below", row.way(0, -1), -1);
     }
 
     private static void now() {

@@ -8,6 +8,7 @@ public final class PlanTest {
         goingLate();
         oneDeedForTwo();
         firstOfLikeOnes();
+        thereAndBack();
         whatWasDone();
         busyNow();
         letOffOnesToo();
@@ -68,6 +69,27 @@ public final class PlanTest {
         far.say(0, 0);
         Check.due("two goings", far.plan(0), 2);
         steps("by places", far, 0, 101, 103, 200, 0, 0);
+    }
+
+    private static void thereAndBack() {
+        WellPromises x = Check.with("hours 6;place w;place h;place t;way w h;way h t;frog w;frog t;person p t;deed eat;deed bow;"
+            + "promise x p eat w 2 3 1;promise y p bow t 0 5 1;promise z p eat t 5 5 1;");
+        x.say(0, 0);
+        x.say(0, 1);
+        Check.due("two goings to the first place", x.plan(0), 2);
+        steps("to the first place", x, 201, 101, 100, 200, 0, 0);
+        x.say(0, 2);
+        Check.due("too far for all", x.plan(0), -1);
+        Check.due("all three quarrel, two never", x.quarrel(0), 7);
+        x.go(0, 1);
+        Check.due("without y's deed", x.plan(0), -1);
+        x.hours(1);
+        x.go(0, 0);
+        x.hours(1);
+        x.act(0, 0);
+        x.hours(1);
+        Check.due("and back for both", x.plan(0), -1);
+        Check.due("two of one hour quarrel", x.quarrel(0), 6);
     }
 
     private static void whatWasDone() {

@@ -46,7 +46,8 @@ public final class VowFrogTest {
 
     private static void frogs() {
         WellPromises x = Check.with("hours 5;place a;place b;place c;place e;place g;way a b;way b c;way c e;way e g;"
-            + "frog a;frog b;frog c;frog g;frog a;person p a;person q e;deed d;promise x p d a 1 2 1;promise y q d a 1 2 1;");
+            + "frog a;frog b;frog c;frog g;frog a;person p a;person q e;person r b;deed d;promise x p d a 1 2 1;"
+            + "promise y q d a 1 2 1;promise z r d a 1 2 1;");
         Check.due("not said", x.knows(0, 0), -1);
         Check.due("heard by none", x.heard(0), 0);
         x.hours(7);
@@ -63,11 +64,17 @@ public final class VowFrogTest {
         x.hours(50);
         Check.due("never further than a frog hears", x.heard(0), 23);
         Check.due("when it was", x.knows(2, 0), 9);
+        x.say(2, 2);
+        int[] third = {60, 59, 60, -1, 60};
+        for (int f = 0; f < third.length; f++) {
+            Check.due("knows of the third " + f, x.knows(f, 2), third[f]);
+        }
+        Check.due("heard of the third", x.heard(2), 2);
         Check.due("no such frog", x.knows(5, 0), -1);
         Check.due("frog below", x.knows(-1, 0), -1);
-        Check.due("no such promise", x.knows(0, 2), -1);
+        Check.due("no such promise", x.knows(0, 3), -1);
         Check.due("promise below", x.knows(0, -1), -1);
-        Check.due("heard of none", x.heard(2), -1);
+        Check.due("heard of none", x.heard(3), -1);
         Check.due("heard below", x.heard(-1), -1);
     }
 
