@@ -65,6 +65,17 @@ public final class Edge23To43Test {
         Check.due("the third one by 4, the first one by none, the second one is kept by all", x.agree(), 0x0f);
         x.hours(4);
         Check.due("on the next day as then", x.agree(), 0x0f);
+        x = Check.with(EIGHT);
+        for (int k = 0; k < 8; k++) {
+            x.say(0, k);
+        }
+        Check.due("eight that are open", x.agree(), 255);
+        x.hours(2);
+        Check.due("eight by bit 1", x.agree(), 0x55);
+        Check.due("none is broken by reading 0", x.now(5), 0);
+        x.hours(1);
+        Check.due("eight that are broken", x.agree(), 255);
+        Check.due("all eight by reading 0", x.now(5), 8);
     }
 
     private static void steps(String name, WellPromises x, int... due) {
