@@ -14,6 +14,7 @@ public final class Edge23To43Test {
         p24Plan();
         p24FourAtMost();
         p24FullDay();
+        p24OneHourShort();
         p24TheOtherPerson();
         p24TheLastHour();
         p25Step();
@@ -170,6 +171,41 @@ public final class Edge23To43Test {
         Check.due("seven goings", x.plan(1), 7);
         steps("seven goings", x, 0, 0, 0, 0, 0, 205, 205, 205, 106, 204, 204, 204, 105, 104, 103, 102, 101, 205, 205, 205, 100,
             203, 203, 203);
+        for (int k = 0; k < 100; k++) {
+            Check.due("again and again", x.plan(k % 2), k % 2 == 0 ? 0 : 7);
+        }
+    }
+
+    /** Of four PROMISES one has as many HOURS as it asks for, or one less. */
+    private static void p24OneHourShort() {
+        for (int k = 0; k < 4; k++) {
+            for (int times = 1; times <= 3; times++) {
+                for (int others = 1; others <= 3; others++) {
+                    WellPromises x = fourPromises(k, times, others, times);
+                    Check.due("just enough for " + k, x.plan(0), 0);
+                    Check.due("no quarrel", x.quarrel(0), 0);
+                    Check.due("the last hours", x.step(24 - times), 200 + k);
+                    Check.due("ahead of them another one", x.step(23 - times), 200 + (k == 3 ? 2 : 3));
+                    x = fourPromises(k, times, others, times - 1);
+                    Check.due("one hour short for " + k, x.plan(0), times == 1 ? 0 : -1);
+                    Check.due("it alone can't be", x.quarrel(0), times == 1 ? 0 : 1 << k);
+                }
+            }
+        }
+    }
+
+    private static WellPromises fourPromises(int k, int times, int others, int hours) {
+        StringBuilder text = new StringBuilder("place w;frog w;person p w;deed a;deed b;deed c;deed e;");
+        for (int n = 0; n < 4; n++) {
+            int from = n == k ? Math.min(23, 24 - hours) : 0;
+            text.append("promise x").append((char) ('a' + n)).append(" p ").append("abce".charAt(n)).append(" w ").append(from)
+                .append(" 23 ").append(n == k ? times : others).append(';');
+        }
+        WellPromises x = Check.with(text.toString());
+        for (int n = 0; n < 4; n++) {
+            x.say(0, n);
+        }
+        return x;
     }
 
     private static void p24TheOtherPerson() {
