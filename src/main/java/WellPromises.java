@@ -512,7 +512,8 @@ public final class WellPromises {
     }
 
     public int sentence() {
-        boolean fine = wordReader.readWhole();
+        wordReader.begin();
+        boolean fine = wordReader.readCond(1) && wordReader.isAtEnd();
         tape.length = 0;
         if (!fine) {
             return -1 - tape.faultAt;
@@ -1586,7 +1587,7 @@ public final class WellPromises {
         final int[] dueTimes = new int[MOST_DUE];
         final int[] states = new int[STILL];
         final int[] steps = new int[MOST_HOURS];
-        byte[] fewest = null;
+        byte[] fewest = new byte[0];
         int dueCount = 0;
         int stateCount = 0;
         int person = 0;
@@ -1668,7 +1669,7 @@ public final class WellPromises {
 
         /** For a set of the DUE ones; NONE if they can't be KEPT together. */
         private int fewestGoings(int set) {
-            if (fewest == null) {
+            if (fewest.length < TABLE) {
                 fewest = new byte[TABLE];
             }
             gatherStates(set);
@@ -2050,16 +2051,16 @@ public final class WellPromises {
             this.words = words;
         }
 
-        boolean readWhole() {
+        void begin() {
             words.clear();
             tape.startReading(SENTENCE_BYTES);
-            if (!readCond(1)) {
-                return false;
-            }
+        }
+
+        boolean isAtEnd() {
             return tape.kind == END || tape.fail(FAULT_TOKEN);
         }
 
-        private boolean readCond(int depth) {
+        boolean readCond(int depth) {
             if (!readBoth(depth)) {
                 return false;
             }
@@ -2136,7 +2137,8 @@ public final class WellPromises {
         }
 
         private boolean readOf() {
-            if (!tape.takeKnown(house, SORT_PERSON)) {
+            tape.readNext();
+            if (!tape.isKnown(house, SORT_PERSON)) {
                 return false;
             }
             words.add(WORD_OF, 0, tape.found);
@@ -2150,8 +2152,9 @@ public final class WellPromises {
             if (!Tape.isCompare(sign)) {
                 return tape.fail(FAULT_TOKEN);
             }
-            if (!tape.takeNumber(0, 999)) {
-                return false;
+            tape.readNext();
+            if (tape.kind != NUMBER) {
+                return tape.fail(FAULT_TOKEN);
             }
             words.add(kind, sign, tape.number);
             tape.readNext();
